@@ -613,7 +613,7 @@ public final class SecondWell {
         if (k < 0 || k >= IMAGES) {
             return MISSING;
         }
-        images[k].take(told, acts, actCount);
+        images[k].store(told, acts, actCount);
         return 0;
     }
 
@@ -624,7 +624,7 @@ public final class SecondWell {
         if (!images[k].has) {
             return EMPTY;
         }
-        actCount = images[k].give(told, acts);
+        actCount = images[k].restore(told, acts);
         replay();
         return 0;
     }
@@ -775,8 +775,8 @@ public final class SecondWell {
         int sumOf(int person, int set) {
             int sum = 0;
             for (int m = 0; m < matters; m++) {
-                if (bitOf(set, m) == 1) {
-                    sum += gainOf(person, m);
+                if ((set >> m & 1) == 1) {
+                    sum += gains[person * MOST_MATTERS + m];
                 }
             }
             return sum;
@@ -794,7 +794,7 @@ public final class SecondWell {
         int fallIn(int set, int matter) {
             int fallen = set & (1 << matter);
             for (int m = matter + 1; m < matters; m++) {
-                if (bitOf(set, m) == 1 && (on[m] & fallen) != 0) {
+                if ((set >> m & 1) == 1 && (on[m] & fallen) != 0) {
                     fallen |= 1 << m;
                 }
             }
@@ -805,11 +805,8 @@ public final class SecondWell {
             return -sumOf(person, fallen);
         }
 
-        boolean agrees(int person, int matter, int fallen) {
-            if (bitOf(jug, matter) == 1) {
-                return true;
-            }
-            return bitOf(stubborn, person) == 0 && swingOf(person, fallen) >= 0;
+        boolean agrees(int person, int matter, int swing) {
+            return (jug >> matter & 1) == 1 || (stubborn >> person & 1) == 0 && swing >= 0;
         }
 
         boolean isClosed(int set) {
@@ -950,7 +947,7 @@ public final class SecondWell {
                 marks |= mark;
                 next();
                 if (mark == ON) {
-                    made.on[made.matters] = takeMatters();
+                    takeMatters();
                 } else if (mark == DRY) {
                     made.dry |= 1 << made.matters;
                 } else {
@@ -969,17 +966,13 @@ public final class SecondWell {
             return isWord("jug") ? JUG : 0;
         }
 
-        private int takeMatters() {
-            int all = 0;
+        private void takeMatters() {
             int i = 0;
             do {
                 int matter = takeNumber(made.matters - 1, NONE);
-                if (fault == 0) {
-                    all |= 1 << matter;
-                }
+                made.on[made.matters] |= 1 << matter;
                 i++;
             } while (i < MOST_BYTES && fault == 0 && kind == IS_NUMBER);
-            return all;
         }
 
         private int takeGain() {
@@ -1048,33 +1041,30 @@ public final class SecondWell {
                 start++;
             }
             past = start;
+            kind = AT_END;
             if (start >= length) {
-                kind = AT_END;
                 return;
             }
-            kind = kindOf(bytes[start]);
             past++;
-            if (kind == IS_WORD || kind == IS_NUMBER) {
-                while (past < length && kindOf(bytes[past]) == kind) {
+            if (bytes[start] >= 'a' && bytes[start] <= 'z') {
+                kind = IS_WORD;
+                while (past < length && bytes[past] >= 'a' && bytes[past] <= 'z') {
                     past++;
                 }
+            } else if (bytes[start] >= '0' && bytes[start] <= '9') {
+                kind = IS_NUMBER;
+                while (past < length && bytes[past] >= '0' && bytes[past] <= '9') {
+                    past++;
+                }
+            } else {
+                kind = bytes[start] == ';' ? IS_SIGN : IS_NOTHING;
             }
-        }
-
-        private static int kindOf(byte sign) {
-            if (sign >= 'a' && sign <= 'z') {
-                return IS_WORD;
-            }
-            if (sign >= '0' && sign <= '9') {
-                return IS_NUMBER;
-            }
-            return sign == ';' ? IS_SIGN : IS_NOTHING;
         }
     }
 
     /** What has come of a TOWN by ACTS. */
     private static final class State {
-        private static final int CAN = 0;
+        static final int CAN = 0;
         private static final int NO_LAST = 1;
         private static final int LAST_DRY = 2;
         private static final int LAST_DRUNK = 3;
@@ -1127,7 +1117,7 @@ public final class SecondWell {
 
         int lastOf(int person) {
             for (int i = many - 1; i >= 0; i--) {
-                if (bitOf(town.mine[person], order[i]) == 1) {
+                if ((town.mine[person] >> order[i] & 1) == 1) {
                     return order[i];
                 }
             }
@@ -1151,16 +1141,13 @@ public final class SecondWell {
             if (level < 1) {
                 return NO_WATER;
             }
-            int fallen = town.fallIn(settled, last);
-            return town.agrees(town.otherParty(last, person), last, fallen) ? CAN : NOT_AGREED;
-        }
-
-        boolean isAble(int person) {
-            return whyNot(person) == CAN;
+            int other = town.otherParty(last, person);
+            int swing = -town.sumOf(other, town.fallIn(settled, last));
+            return town.agrees(other, last, swing) ? CAN : NOT_AGREED;
         }
 
         boolean isWilling(int person) {
-            return isAble(person) && town.swingOf(person, town.fallIn(settled, lastOf(person))) > 0;
+            return whyNot(person) == CAN && town.swingOf(person, town.fallIn(settled, lastOf(person))) > 0;
         }
 
         int wishers() {
@@ -1214,7 +1201,7 @@ public final class SecondWell {
         }
 
         private boolean takeDrink(int person) {
-            if (!isAble(person)) {
+            if (whyNot(person) != CAN) {
                 return false;
             }
             int last = lastOf(person);
@@ -1360,8 +1347,8 @@ public final class SecondWell {
         /** What a PARTY gains by the FALL of a MATTER in a set; 0 if it is dry or the other one does not AGREE. */
         private int gainByFall(int set, int matter, int person) {
             int fallen = town.fallIn(set, matter);
-            if (bitOf(town.dry, matter) == 1
-                    || !town.agrees(town.otherParty(matter, person), matter, fallen)) {
+            int other = town.otherParty(matter, person);
+            if (bitOf(town.dry, matter) == 1 || !town.agrees(other, matter, town.swingOf(other, fallen))) {
                 return 0;
             }
             return town.swingOf(person, fallen);
@@ -1661,7 +1648,7 @@ public final class SecondWell {
         int bestQuestion() {
             leftAtWorst = 0;
             for (int p = 0; p < town.people; p++) {
-                if (now.isAble(p)) {
+                if (now.whyNot(p) == State.CAN) {
                     leftAtWorst++;
                 }
             }
@@ -1872,14 +1859,14 @@ public final class SecondWell {
         final int[] acts = new int[MOST_ACTS];
         int actCount;
 
-        void take(Town told, int[] taken, int many) {
+        void store(Town told, int[] taken, int many) {
             has = true;
             town.copyFrom(told);
             System.arraycopy(taken, 0, acts, 0, MOST_ACTS);
             actCount = many;
         }
 
-        int give(Town told, int[] taken) {
+        int restore(Town told, int[] taken) {
             told.copyFrom(town);
             System.arraycopy(acts, 0, taken, 0, MOST_ACTS);
             return actCount;

@@ -6,7 +6,9 @@ import java.nio.file.Files;
 import java.nio.file.Path;
 import java.util.Arrays;
 import java.util.HashSet;
+import java.util.Map;
 import java.util.Set;
+import java.util.TreeMap;
 import java.util.TreeSet;
 import java.util.regex.Matcher;
 import java.util.regex.Pattern;
@@ -109,6 +111,42 @@ public final class LanguageTest {
                     "Integer.bitCount").contains(calls.group()));
         }
         methodsAreShort(text);
+        callsAreFlat(code);
+    }
+
+    /** Of methods of one name the calls of all are taken together, so the depth is no less than it is. */
+    private static void callsAreFlat(String code) {
+        Map<String, Set<String>> calls = new TreeMap<>();
+        String method = null;
+        for (String line : code.split("\n")) {
+            Matcher head = Pattern.compile("(?: {4}| {8})(?=[a-z])[\\w\\[\\] ]* (\\w+)\\(.*\\) \\{").matcher(line);
+            if (head.matches()) {
+                method = head.group(1);
+                calls.computeIfAbsent(method, k -> new TreeSet<>());
+                continue;
+            }
+            Matcher call = Pattern.compile("(\\w+)\\(").matcher(line);
+            while (method != null && call.find()) {
+                calls.get(method).add(call.group(1));
+            }
+        }
+        same("methods are found", calls.size() > 130);
+        for (String name : calls.keySet()) {
+            int depth = depthOf(name, calls, new HashSet<>());
+            same("at most eight deep: " + name + " goes " + depth, depth <= 8);
+        }
+    }
+
+    private static int depthOf(String name, Map<String, Set<String>> calls, Set<String> open) {
+        int below = 0;
+        open.add(name);
+        for (String called : calls.get(name)) {
+            if (calls.containsKey(called) && !open.contains(called)) {
+                below = Math.max(below, depthOf(called, calls, open));
+            }
+        }
+        open.remove(name);
+        return below + 1;
     }
 
     private static void methodsAreShort(String text) {
