@@ -1281,6 +1281,7 @@ public final class SecondWell {
         final int[] ways = new int[MOST_SETS];
         final int[] wishers = new int[MOST_MATTERS];
         final int[] firm = new int[MOST_SETS];
+        final int[] sums = new int[MOST_SETS * MOST_PEOPLE];
         final int[] rows = new int[MOST_MATTERS];
         int firmCount;
 
@@ -1335,7 +1336,7 @@ public final class SecondWell {
         private void findWishers(int set) {
             for (int m = 0; m < town.matters; m++) {
                 wishers[m] = 0;
-                for (int side = 0; side < 2; side++) {
+                for (int side = 0; side < 2 && bitOf(set, m) == 1; side++) {
                     int person = town.partyOf(m, side);
                     if (now.level > 0 && now.cups[person] > 0 && gainByFall(set, m, person) > 0) {
                         wishers[m] |= 1 << person;
@@ -1451,7 +1452,7 @@ public final class SecondWell {
             int weakest = NONE;
             int most = 0;
             for (int m = 0; m < town.matters; m++) {
-                for (int side = 0; side < 2; side++) {
+                for (int side = 0; side < 2 && bitOf(set, m) == 1; side++) {
                     int gain = gainByFall(set, m, town.partyOf(m, side));
                     if (gain > most) {
                         weakest = m;
@@ -1498,20 +1499,29 @@ public final class SecondWell {
             return bits;
         }
 
+        // The SUMS are kept in a row, since each is compared with those of all other FIRM sets.
         int electedOne() {
             findFirm();
             for (int i = 0; i < firmCount; i++) {
-                if (isUnbeaten(firm[i])) {
+                for (int p = 0; p < town.people; p++) {
+                    sums[i * MOST_PEOPLE + p] = town.sumOf(p, firm[i]);
+                }
+            }
+            for (int i = 0; i < firmCount; i++) {
+                if (isUnbeaten(i)) {
                     return firm[i];
                 }
             }
             return NONE;
         }
 
-        private boolean isUnbeaten(int set) {
-            for (int i = 0; i < firmCount; i++) {
-                int with = Integer.bitCount(votersFor(set, firm[i]));
-                if (with < Integer.bitCount(votersFor(firm[i], set))) {
+        private boolean isUnbeaten(int i) {
+            for (int k = 0; k < firmCount; k++) {
+                int lead = 0;
+                for (int p = 0; p < town.people; p++) {
+                    lead += Integer.signum(sums[i * MOST_PEOPLE + p] - sums[k * MOST_PEOPLE + p]);
+                }
+                if (lead < 0) {
                     return false;
                 }
             }

@@ -242,7 +242,12 @@ public final class ActsTest {
     }
 
     private static void imageOfNothing() {
-        SecondWell w = new SecondWell();
+        SecondWell w = Check.told(TownTest.TOWN);
+        w.town();
+        for (int what = 0; what < 8; what++) {
+            Check.due("count(" + what + ") without a TOWN", w.count(what), 0);
+        }
+        w = new SecondWell();
         Check.due("image(1)", w.image(1), 0);
         Check.feed(w, TownTest.TOWN);
         w.town();

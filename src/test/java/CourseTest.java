@@ -4,6 +4,7 @@ public final class CourseTest {
         settlingAlone();
         drinkingFirst();
         longer();
+        gainless();
         noTown();
         Check.finish("CourseTest");
     }
@@ -57,6 +58,17 @@ public final class CourseTest {
         w.settle(1);
         courseDue(w, new int[] {11, 2, 3}, 15, 1);
         Check.due("brings(0)", w.brings(0), -8);
+    }
+
+    // Both must gain above 0; a MATTER that can't be settled yet comes when it can.
+    private static void gainless() {
+        SecondWell w = Check.told("well level 2 spring 0 frost 0;person cups 1;person cups 1;"
+                + "matter 0 gains 0 1 gains 5;matter 0 gains 5 1 gains 0;matter 0 gains 1 1 gains 1 on 0;"
+                + "matter 0 gains 1 1 gains 1;");
+        courseDue(w, new int[] {3}, 8, 0);
+        w.settle(0);
+        courseDue(w, new int[] {2, 3}, 13, 0);
+        courseDue(Check.told("well level 2 spring 0 frost 0;"), new int[] {}, 0, 0);
     }
 
     private static void noTown() {

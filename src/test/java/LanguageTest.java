@@ -108,7 +108,7 @@ public final class LanguageTest {
         Matcher calls = Pattern.compile("\\b(Arrays|System|Math|Integer|Long)\\.(\\w+)").matcher(code);
         while (calls.find()) {
             same("library " + calls.group(), Set.of("Arrays.fill", "System.arraycopy", "Math.min", "Math.max",
-                    "Integer.bitCount").contains(calls.group()));
+                    "Integer.bitCount", "Integer.signum").contains(calls.group()));
         }
         methodsAreShort(text);
         callsAreFlat(code);

@@ -40,7 +40,8 @@ public final class MinutesTest {
         put(w, 2, 0, 1);
         Check.due("judge(2)", w.judge(2), 0);
         Check.due("held(2)", w.held(2), 0);
-        w.row(2, 0, 0);
+        Check.due("row(2, 0, 0)", w.row(2, 0, 0), 0);
+        Check.due("write beyond an empty row", w.write(2, 0, 0), -7);
         Check.due("judge(2) of an empty row", w.judge(2), 0);
         Check.due("held(2) of an empty row", w.held(2), 0);
         Check.due("when(2, 0, 0) of an empty row", w.when(2, 0, 0), 0);

@@ -63,15 +63,15 @@ public final class ModelTest {
     }
 
     private String townText(boolean small) {
-        people = 1 + below(6);
-        matters = people < 2 ? 0 : below(small ? 6 : 9);
+        people = below(12) == 0 ? below(2) : 2 + below(5);
+        matters = people < 2 || below(15) == 0 ? 0 : 1 + below(small ? 5 : 8);
         StringBuilder b = new StringBuilder();
         int level = below(3) == 0 ? below(3) : below(100);
         b.append("well level ").append(level).append(" spring ").append(below(10)).append(" frost ")
                 .append(below(3) == 0 ? below(101) : below(20)).append(';');
         for (int p = 0; p < people; p++) {
             b.append(below(2) == 0 ? " " : "\n").append("person cups ").append(below(10));
-            b.append(below(5) == 0 ? " stubborn ;" : ";");
+            b.append(below(6) == 0 ? " stubborn ;" : ";");
         }
         for (int m = 0; m < matters; m++) {
             int first = below(people);
@@ -83,7 +83,7 @@ public final class ModelTest {
     }
 
     private String gain() {
-        return (below(3) == 0 ? " loses " : " gains ") + (below(3) == 0 ? below(100) : below(7)) + " ";
+        return (below(5) < 2 ? " loses " : " gains ") + (below(3) == 0 ? below(100) : below(7)) + " ";
     }
 
     private String marksText(int m) {
@@ -98,7 +98,7 @@ public final class ModelTest {
         if (below(6) == 0) {
             marks.add(below(marks.size() + 1), "dry");
         }
-        if (below(4) == 0) {
+        if (below(3) == 0) {
             marks.add(below(marks.size() + 1), "jug");
         }
         return String.join(" ", marks);
@@ -164,17 +164,40 @@ public final class ModelTest {
         }
     }
 
-    /** A row of ACTS, most of which can be: its makers look at what is open. */
+    /** Two rows of ACTS of one beginning, many of which can be. */
     private void makeMinutes(int slot) throws Exception {
-        int n = below(12);
-        same("row", slot, below(4), n);
+        int n = below(14);
+        int width = below(4);
+        int other = (slot + 1 + below(3)) % 4;
+        same("row", slot, width, n);
+        same("row", other, width, n);
         for (int i = 0; i < n; i++) {
-            int act = below(10) == 0 ? 20 : below(4) == 0 ? 10 + below(people) : below(Math.max(1, matters));
-            same("write", slot, i, (long) (below(200) == 0 ? 9 : act));
+            same("write", slot, i, likelyAct(i));
         }
-        same("judge", slot);
-        same("held", slot);
-        same("when", slot, below(Math.max(1, matters)), below(n + 2));
+        same("paste", slot, 0, other, 0, n);
+        for (int i = 1 + below(3); i > 0 && n > 0; i--) {
+            int at = below(n);
+            same("write", other, at, likelyAct(at));
+        }
+        for (int k : new int[] {slot, other}) {
+            same("judge", k);
+            same("held", k);
+            for (int i = 0; i < 3; i++) {
+                same("when", k, below(Math.max(1, matters)), below(n + 2));
+            }
+        }
+        same("differs", slot, other);
+    }
+
+    private long likelyAct(int i) {
+        if (below(200) == 0) {
+            return below(40) - 3;
+        }
+        int kind = below(10);
+        if (kind < 6 && matters > 0) {
+            return below(4) == 0 ? below(matters) : i % matters;
+        }
+        return kind < 9 && people > 0 ? 10 + below(people) : 20;
     }
 
     private void ask(String call) throws Exception {

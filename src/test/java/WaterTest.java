@@ -71,6 +71,11 @@ public final class WaterTest {
         drawnDue(w, 1, 5, 5, 99, 0, 3);
         drawnDue(w, 1, 7, 5, 99, 0, 5);
         drawnDue(w, 1, 8, 5, 99, 0, 5);
+        // From seed 0 they are 0, 21468, 9988; from 2,000,000,000: 3304, 7133, 3221, 19807, 6926, 6792, 5557.
+        drawnDue(w, 0, 1, 0, 92, 0, 1);
+        drawnDue(w, 0, 2, 4, 94, 0, 1);
+        drawnDue(w, 2000000000, 5, 0, 99, 0, 5);
+        drawnDue(w, 2000000000, 6, 4, 99, 0, 5);
         Check.due("settled() is as ahead", w.settled(), 0);
         Check.due("level() is as ahead", w.level(), 90);
         w = Check.told("well level 90 spring 2 frost 39;" + people + matters);
@@ -104,6 +109,8 @@ public final class WaterTest {
         w.settle(0);
         Check.due("why(1)", w.why(1), 0);
         drawnDue(w, 1, 1, 3, 9, 0, 0);
+        w = Check.told(head + "matter 1 gains 0 2 gains 5;");
+        drawnDue(w, 1, 1, 0, 9, 0, 0);
         w = Check.told(head + "matter 1 loses 1 0 loses 3;matter 1 gains 2 2 gains 0;");
         w.settle(0);
         drawnDue(w, 1, 1, 0, 8, 1, 0);
