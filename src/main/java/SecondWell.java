@@ -459,7 +459,7 @@ public final class SecondWell {
     }
 
     public int when(int slot, int matter, int n) {
-        if (!told.hasMatter(matter)) {
+        if (!told.hasMatter(matter) || n < 0) {
             return MISSING;
         }
         int wrong = wrongRow(slot);
@@ -1717,7 +1717,7 @@ public final class SecondWell {
         }
 
         int heldWhen(Slot row, int matter, int n) {
-            if (n < 0 || takeFirst(row, n) < n) {
+            if (takeFirst(row, n) < n) {
                 return NONE;
             }
             return bitOf(state.settled, matter);

@@ -3,6 +3,7 @@ public final class MinutesTest {
     public static void main(String[] args) {
         judging();
         judgingFromNothing();
+        whenBelowZero();
         differing();
         noActs();
         rows();
@@ -29,7 +30,6 @@ public final class MinutesTest {
         Check.due("when(0, 2, 4)", w.when(0, 2, 4), 0);
         Check.due("when(0, 0, 5)", w.when(0, 0, 5), 1);
         Check.due("when(0, 2, 6)", w.when(0, 2, 6), -1);
-        Check.due("when(0, 2, -1)", w.when(0, 2, -1), -1);
         Check.due("when(0, 4, 0)", w.when(0, 4, 0), -2);
         Check.due("when(0, -1, 0)", w.when(0, -1, 0), -2);
         put(w, 1, 3, 0, 2, 10, 2, 10, 1);
@@ -53,6 +53,26 @@ public final class MinutesTest {
             Check.due("held(" + slot + ")", w.held(slot), -2);
             Check.due("when(" + slot + ", 0, 0)", w.when(slot, 0, 0), -2);
         }
+    }
+
+    // There is no such n, as there may be no such MATTER: asked ahead of a SLOT that has nothing.
+    private static void whenBelowZero() {
+        SecondWell w = Check.told(TownTest.TOWN);
+        put(w, 0, 0, 0, 1, 2, 10, 20);
+        Check.due("row(1, 0, 0)", w.row(1, 0, 0), 0);
+        put(w, 2, 0, 0, 9);
+        for (int n : new int[] {-1, -2, -60, Integer.MIN_VALUE}) {
+            Check.due("when(0, 2, " + n + ") of a row", w.when(0, 2, n), -2);
+            Check.due("when(1, 0, " + n + ") of an empty row", w.when(1, 0, n), -2);
+            Check.due("when(2, 0, " + n + ") of no ACTS", w.when(2, 0, n), -2);
+            Check.due("when(3, 0, " + n + ") of nothing", w.when(3, 0, n), -2);
+            Check.due("when(4, 0, " + n + ") of no SLOT", w.when(4, 0, n), -2);
+            Check.due("when(3, 4, " + n + ") of no MATTER", w.when(3, 4, n), -2);
+        }
+        Check.due("when(3, 0, 0) of nothing", w.when(3, 0, 0), -6);
+        Check.due("when(3, 0, 61) of nothing", w.when(3, 0, 61), -6);
+        Check.due("when(1, 0, 1) of an empty row", w.when(1, 0, 1), -1);
+        Check.due("when(0, 0, top) of a row", w.when(0, 0, Integer.MAX_VALUE), -1);
     }
 
     private static void judgingFromNothing() {

@@ -1059,12 +1059,12 @@ final class ModelWell {
     }
 
     public int when(int slot, int m, int n) {
-        int w = noMatter(m) ? -2 : rowWrong(slot);
+        int w = n < 0 || noMatter(m) ? -2 : rowWrong(slot);
         if (w < 0) {
             return w;
         }
         List<State> all = behind(slot);
-        return n < 0 || n >= all.size() ? -1 : all.get(n).settled.contains(m) ? 1 : 0;
+        return n >= all.size() ? -1 : all.get(n).settled.contains(m) ? 1 : 0;
     }
 
     public int differs(int slot, int other) {
