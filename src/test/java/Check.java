@@ -1,7 +1,11 @@
 import java.nio.charset.StandardCharsets;
+import java.util.function.IntUnaryOperator;
 
 /** What the tests share: telling a text, comparing answers, ending with the exit code. */
 final class Check {
+    static final int LEAST = Integer.MIN_VALUE;
+    static final int MOST = Integer.MAX_VALUE;
+
     private static int wrong = 0;
     private static int asked = 0;
 
@@ -14,6 +18,25 @@ final class Check {
             wrong++;
             System.out.println(call + " answered " + got + ", due is " + want);
         }
+    }
+
+    /** The same answer is due for each of the given numbers. */
+    static void each(String call, IntUnaryOperator ask, int want, int... given) {
+        for (int n : given) {
+            due(call + " with " + n, ask.applyAsInt(n), want);
+        }
+    }
+
+    /** Of all answers from 0 on the due ones. */
+    static void row(String call, IntUnaryOperator ask, int... want) {
+        for (int i = 0; i < want.length; i++) {
+            due(call + " with " + i, ask.applyAsInt(i), want[i]);
+        }
+    }
+
+    /** Numbers that are none of 0 .. n - 1: the nearest ones, such as a shift or a cut would take for one, the farthest. */
+    static int[] beyond(int n) {
+        return new int[] {-1, n, -2, n + 1, n + 32, n + 64, n + 256, -32, 1 << 16, 1 << 30, LEAST, LEAST + 1, MOST};
     }
 
     static void finish(String name) {
@@ -59,6 +82,17 @@ final class Check {
         return w;
     }
 
+    /** A text without a FAULT, of so many LINES. */
+    static SecondWell readsDue(String text, int lines) {
+        SecondWell w = new SecondWell();
+        feed(w, text);
+        due("town() of '" + text + "'", w.town(), lines);
+        due("fault(0) of '" + text + "'", w.fault(0), 0);
+        due("fault(1) of '" + text + "'", w.fault(1), -1);
+        due("count(4) of '" + text + "'", w.count(4), lines);
+        return w;
+    }
+
     static void faultDue(String text, int fault, int place) {
         SecondWell w = new SecondWell();
         feed(w, text);
@@ -66,5 +100,23 @@ final class Check {
         due("fault(0) of '" + text + "'", w.fault(0), fault);
         due("fault(1) of '" + text + "'", w.fault(1), place);
         due("count(4) behind a fault", w.count(4), 0);
+    }
+
+    /** A SLOT's row is just these numbers. */
+    static void put(SecondWell w, int slot, int width, long... numbers) {
+        due("row", w.row(slot, width, numbers.length), 0);
+        for (int i = 0; i < numbers.length; i++) {
+            due("write", w.write(slot, i, numbers[i]), 0);
+        }
+    }
+
+    /** ACTS by their numbers, each of which can be. */
+    static void take(SecondWell w, int... acts) {
+        for (int act : acts) {
+            int answer = act < 10 ? w.settle(act) : act < 20 ? w.drink(act - 10) : w.day();
+            if (answer < 0) {
+                due("ACT " + act, answer, 0);
+            }
+        }
     }
 }
