@@ -149,19 +149,32 @@ public final class CourseEdgesTest {
         Check.row("brings, a loss", loss::brings, -99, -99);
     }
 
-    // step() and the others go by the COURSE from now on, whichever was asked for ahead of an ACT.
+    // Each goes by the COURSE from now on, whatever was asked ahead of an ACT, and by itself.
     private static void fromNowOn() {
-        SecondWell w = Check.told(Towns.ofTwo(9, "0 gains 1 1 gains 1", "0 loses 1 1 loses 1"));
-        courseDue("at first", w, 1, 0, 0);
-        Check.take(w, 1);
-        Check.due("step(0)", w.step(0), 10);
-        Check.due("ends()", w.ends(), 1);
-        Check.due("sips()", w.sips(), 1);
-        Check.due("brings(0)", w.brings(0), 1);
+        Check.due("course()", another().course(), 1);
+        Check.due("step(0)", another().step(0), 10);
+        Check.due("step(1)", another().step(1), -1);
+        Check.due("ends()", another().ends(), 1);
+        Check.due("sips()", another().sips(), 1);
+        Check.due("brings(0)", another().brings(0), 1);
+        SecondWell w = another();
         w.undo();
+        w.undo();
+        Check.due("ends(), taken back", w.ends(), 1);
         w.price(0, 0, 0);
+        Check.due("ends(), no gain now", w.ends(), 0);
         Check.due("step(0), no gain now", w.step(0), -1);
-        Check.due("ends()", w.ends(), 0);
+    }
+
+    /** It was asked for a COURSE of other steps, ahead of ACTS. */
+    private static SecondWell another() {
+        SecondWell w = Check.told(Towns.ofTwo(9, "0 gains 1 1 gains 1", "0 loses 1 1 loses 2", "0 gains 0 1 gains 0"));
+        Check.take(w, 1);
+        courseDue("ahead", w, 1, 1, 10, 0);
+        w.undo();
+        courseDue("at first", w, 1, 0, 0);
+        Check.take(w, 0, 1);
+        return w;
     }
 
     private static void asAhead() {

@@ -467,6 +467,10 @@ public final class MinutesEdgesTest {
         // As far as both go: the shorter row, the one that can't go on.
         Check.put(w, 1, 0, 0, 1);
         Check.due("up to the shorter one's end", w.differs(0, 1), -1);
+        Check.put(w, 1, 0, 20);
+        Check.put(w, 2, 0, 20, 1);
+        Check.due("one has no more ACTS", w.differs(1, 2), -1);
+        Check.due("the other has no more ACTS", w.differs(2, 1), -1);
         Check.put(w, 1, 0, 0, 1, 1, 5);
         Check.due("up to what can't be", w.differs(0, 1), -1);
         Check.due("up to what can't be", w.differs(1, 0), -1);

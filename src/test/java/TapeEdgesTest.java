@@ -140,6 +140,19 @@ public final class TapeEdgesTest {
         Check.due("town()", w.town(), 4);
         SecondWell other = Check.told(WELL + "person cups 5;person cups 6;matter 0 gains 7 1 loses 8;");
         Picture.same("a TOWN in place of another", w, other);
+        String plain = WELL + "person cups 1;".repeat(6) + "matter 2 gains 1 3 gains 1;".repeat(8);
+        w = Check.told(Towns.BIG.replace(";person", " stubborn;person").replace(" stubborn stubborn", " stubborn"));
+        Check.take(w, 0, 1, 2);
+        Check.feed(w, plain);
+        Check.due("town()", w.town(), 15);
+        Picture.same("a plain TOWN in place of another", w, Check.told(plain));
+        // Behind a text with a FAULT nothing of that is left either.
+        w = new SecondWell();
+        Check.feed(w, Towns.BIG + "!");
+        Check.due("town()", w.town(), -4);
+        Check.feed(w, plain);
+        Check.due("town()", w.town(), 15);
+        Picture.same("a plain TOWN behind a FAULT", w, Check.told(plain));
     }
 
     private static void townOfFifteenLines() {

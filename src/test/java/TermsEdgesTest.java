@@ -26,6 +26,7 @@ public final class TermsEdgesTest {
         longNumbers();
         wordsInPlace();
         theEnd();
+        theEndCut();
         firstByPlace();
         ofOnePlaceTheLeast();
         Check.finish("TermsEdgesTest");
@@ -185,6 +186,16 @@ public final class TermsEdgesTest {
                 }
             }
         }
+        for (int some = 0; some < 64; some++) {
+            StringBuilder b = new StringBuilder(WELL);
+            for (int p = 0; p < 6; p++) {
+                b.append((some >> p & 1) == 1 ? "person cups 1 stubborn;" : "person cups 1;");
+            }
+            SecondWell w = Check.readsDue(b.toString(), 7);
+            for (int p = 0; p < 6; p++) {
+                Check.due("person(" + p + ", 1)", w.person(p, 1), some >> p & 1);
+            }
+        }
         Check.due("stubborn", Check.readsDue(PAIR + "person cups 1 stubborn;", 4).person(2, 1), 1);
         Check.due("not stubborn", Check.readsDue(PAIR + "person cups 1;", 4).person(2, 1), 0);
     }
@@ -246,6 +257,10 @@ public final class TermsEdgesTest {
             Check.faultDue(b + "person cups 1;" + ninth, 3, b.length() + 14);
         }
         Check.due("a person behind eight MATTERS", Check.readsDue(b + "person cups 1;", 12).count(0), 3);
+        for (String other : new String[] {"zebra", "matters", "well", "dry", ";", "9", "!"}) {
+            Check.faultDue(b + other, 1, b.length());
+            Check.faultDue(b + "person cups 1;".repeat(4) + other, 1, b.length() + 56);
+        }
     }
 
     // Blanks are 32 and 10 alone; all other bytes are of a TOKEN, or none.
@@ -344,6 +359,34 @@ public final class TermsEdgesTest {
         String long900 = WELL + "person cups 1" + " ".repeat(900 - WELL.length() - 13);
         Check.faultDue(long900, 1, 900);
         Check.readsDue(long900.substring(0, 899) + ";", 2);
+        Check.faultDue(long900.substring(0, 899) + "s", 1, 899);
+        Check.faultDue(long900.substring(0, 899) + "7", 1, 899);
+        Check.faultDue(WELL + " ".repeat(864) + "person", 1, 900);
+        Check.faultDue(WELL + " ".repeat(856) + "person cups 12", 2, 898);
+    }
+
+    // What end() cut away is no part of the last TOKEN.
+    private static void theEndCut() {
+        cutDue("wellspring", 4, 1, 4);
+        cutDue("well levels", 10, 1, 10);
+        cutDue("well level 99999999", 13, 1, 13);
+        cutDue("well level 999", 14, 2, 11);
+        cutDue(WELL + "person cups 1 stubbornly", WELL.length() + 22, 1, WELL.length() + 22);
+        cutDue(WELL + "person cups 10", WELL.length() + 13, 1, WELL.length() + 13);
+        cutDue("well     ;", 7, 1, 7);
+        SecondWell w = new SecondWell();
+        Check.feed(w, WELL + "person cups 1");
+        w.end(WELL.length());
+        Check.due("town(), cut", w.town(), 1);
+    }
+
+    private static void cutDue(String text, int n, int fault, int place) {
+        SecondWell w = new SecondWell();
+        Check.feed(w, text);
+        Check.due("end", w.end(n), n);
+        Check.due("town(), cut", w.town(), -4);
+        Check.due("fault(0), cut", w.fault(0), fault);
+        Check.due("fault(1), cut", w.fault(1), place);
     }
 
     private static void firstByPlace() {

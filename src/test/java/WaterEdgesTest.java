@@ -237,6 +237,14 @@ public final class WaterEdgesTest {
         w = Check.told("well level 0 spring 0 frost 0;person cups 1;person cups 1;matter 0 loses 1 1 gains 0;");
         Check.take(w, 0);
         drawnDue("no water", w, 1, 1, 1, 0, 0, 0);
+        // From seed 1 it is person 1 of three, and 4 of six.
+        w = Check.told("well level 9 spring 0 frost 0;person cups 1;person cups 1;person cups 1;"
+                + "matter 1 loses 1 2 gains 0;");
+        Check.take(w, 0);
+        drawnDue("of person 1", w, 1, 1, 0, 8, 1, 0);
+        w = Check.told("well level 9 spring 0 frost 0;" + "person cups 1;".repeat(6) + "matter 4 loses 1 5 gains 0;");
+        Check.take(w, 0);
+        drawnDue("of person 4", w, 1, 1, 0, 8, 1, 0);
         // One that drinks settles nothing on that day.
         w = Check.told("well level 9 spring 0 frost 0;person cups 1;person cups 1;matter 0 loses 1 1 gains 0;"
                 + "matter 0 gains 1 1 gains 0;");
