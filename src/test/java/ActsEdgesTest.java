@@ -402,6 +402,8 @@ public final class ActsEdgesTest {
             Check.row("act", w::act, 0, 2, 20, 10, -1);
             Check.due("level()", w.level(), 4);
             Check.due("matter(2, 8)", w.matter(2, 8), 1);
+            Check.due("price, its ACTS are there", w.price(0, 0, 1), -1005);
+            Check.due("mark, its ACTS are there", w.mark(0, 0, 1), -5);
             Check.due("undo()", w.undo(), 3);
             Check.due("back(0)", w.back(0), 0);
             Check.due("matter(0, 2)", w.matter(0, 2), 5);

@@ -48,6 +48,9 @@ final class Picture {
             }
         }
         int matters = w.count(1);
+        for (int p = 0; p < people; p++) {
+            note("sum(" + p + ", all)", w.sum(p, (1 << matters) - 1));
+        }
         for (int m = 0; m < matters; m++) {
             for (int what = 0; what < 9; what++) {
                 note("matter(" + m + ", " + what + ")", w.matter(m, what));

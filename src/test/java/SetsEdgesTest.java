@@ -22,6 +22,7 @@ public final class SetsEdgesTest {
         kept();
         firmBySwing();
         firmAgreed();
+        firmOfEachPair();
         firmDry();
         firmWithoutCups();
         firmestOfSeveral();
@@ -332,6 +333,38 @@ public final class SetsEdgesTest {
         SecondWell w = Check.told(Towns.ofThree("0 loses 1 1 gains 1", "1 loses 1 2 gains 1 on 0"));
         Check.due("firm(1)", w.firm(1), 1);
         Check.due("firm(3), by all that fall", w.firm(3), 0);
+    }
+
+    private static void firmOfEachPair() {
+        for (int k = 0; k < 8; k++) {
+            for (int a = 0; a < 6; a++) {
+                for (int b = 0; b < 6; b++) {
+                    if (a != b) {
+                        pairDue(k, a, b);
+                    }
+                }
+            }
+        }
+    }
+
+    private static void pairDue(int k, int a, int b) {
+        String pair = "MATTER " + k + " of " + a + " and " + b + ": ";
+        SecondWell w = Check.told(Towns.ofPair(k, 9, a + " loses 1 " + b + " gains 0"));
+        Check.due(pair + "firm", w.firm(1 << k), 0);
+        Check.due(pair + "weak", w.weak(1 << k), k);
+        Check.due(pair + "stands", w.stands(1 << k), 0);
+        w = Check.told(Towns.ofPair(k, b, a + " loses 1 " + b + " gains 0"));
+        Check.due(pair + "firm, the second stubborn", w.firm(1 << k), 1);
+        Check.due(pair + "stands, the second stubborn", w.stands(1 << k), 1);
+        w = Check.told(Towns.ofPair(k, a, a + " loses 1 " + b + " gains 0"));
+        Check.due(pair + "firm, the first stubborn", w.firm(1 << k), 0);
+        Check.due(pair + "stands, the first stubborn", w.stands(1 << k), 0);
+        w = Check.told(Towns.ofPair(k, 9, a + " gains 1 " + b + " loses 1"));
+        Check.due(pair + "firm, the first gains", w.firm(1 << k), 1);
+        Check.due(pair + "weak, the first gains", w.weak(1 << k), -1);
+        Check.due(pair + "stands, the first gains", w.stands(1 << k), 1);
+        Check.due(pair + "votes", w.votes(1 << k, 0), 1 << a);
+        Check.due(pair + "votes", w.votes(0, 1 << k), 1 << b);
     }
 
     private static void firmDry() {

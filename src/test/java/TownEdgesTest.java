@@ -17,6 +17,7 @@ public final class TownEdgesTest {
         whyFirst();
         agreeing();
         agreeingByTheWholeFall();
+        agreeingOfEachPair();
         cupsAndWater();
         wishing();
         wishingOfAll();
@@ -287,6 +288,38 @@ public final class TownEdgesTest {
         Check.due("why(0), with a jug", w.why(0), 0);
         Check.take(w, 1);
         Check.due("why(0), without", w.why(0), 6);
+    }
+
+    // It is the other PARTY of LAST that is asked, whoever the two are and whichever MATTER it is.
+    private static void agreeingOfEachPair() {
+        for (int k = 0; k < 8; k++) {
+            for (int a = 0; a < 6; a++) {
+                for (int b = 0; b < 6; b++) {
+                    if (a != b) {
+                        pairDue(k, a, b);
+                    }
+                }
+            }
+        }
+    }
+
+    private static void pairDue(int k, int a, int b) {
+        String pair = "MATTER " + k + " of " + a + " and " + b;
+        SecondWell w = Check.told(Towns.ofPair(k, b, a + " loses 1 " + b + " gains 0"));
+        Check.take(w, k);
+        Check.due(pair + ", the second stubborn: why(" + a + ")", w.why(a), 6);
+        Check.due(pair + ", the second stubborn: why(" + b + ")", w.why(b), 0);
+        w = Check.told(Towns.ofPair(k, 9, a + " loses 1 " + b + " gains 2"));
+        Check.take(w, k);
+        Check.due(pair + ", the second gains: why(" + a + ")", w.why(a), 6);
+        Check.due(pair + ", the second gains: why(" + b + ")", w.why(b), 0);
+        Check.due(pair + ": wishes()", w.wishes(), 0);
+        w = Check.told(Towns.ofPair(k, 9, a + " gains 0 " + b + " loses 3"));
+        Check.take(w, k);
+        Check.due(pair + ": wishes()", w.wishes(), 1 << b);
+        Check.due(pair + ": last(" + a + ")", w.last(a), k);
+        Check.due(pair + ": drink(" + b + ")", w.drink(b), 1);
+        Check.due(pair + ": cups", w.person(b, 0), 0);
     }
 
     private static void cupsAndWater() {

@@ -19,6 +19,15 @@ final class Towns {
     private Towns() {
     }
 
+    /** Six PEOPLE, one of them stubborn (or none), and MATTER k, behind others of 0 and 1 by which nobody gains. */
+    static String ofPair(int k, int stubborn, String matter) {
+        StringBuilder b = new StringBuilder("well level 9 spring 0 frost 0;");
+        for (int p = 0; p < 6; p++) {
+            b.append(p == stubborn ? "person cups 1 stubborn;" : "person cups 1;");
+        }
+        return b.append("matter 0 gains 0 1 gains 0;".repeat(k)).append("matter ").append(matter).append(';').toString();
+    }
+
     /** Two PEOPLE with a cup each, a level, and MATTERS. */
     static String ofTwo(int level, String... matters) {
         StringBuilder b = new StringBuilder("well level ").append(level).append(" spring 1 frost 0;");

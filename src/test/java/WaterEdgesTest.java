@@ -18,6 +18,7 @@ public final class WaterEdgesTest {
         drawnDraws();
         drawnWishes();
         drawnGains();
+        drawnOfEachPair();
         drawnLeast();
         luckBounds();
         luckSeeds();
@@ -263,6 +264,25 @@ public final class WaterEdgesTest {
                 w = Check.told("well level 0 spring 0 frost 0;person cups 0;person cups 0;"
                         + "matter 1 " + gains[other] + " 0 " + gains[own] + ";");
                 Check.due("as the second PARTY", w.drawn(1, 1, 0), own == 2 && other >= 1 ? 1 : 0);
+            }
+        }
+    }
+
+    // From seed 1 the first day is of person 4 of six, whoever the other one is.
+    private static void drawnOfEachPair() {
+        for (int k = 0; k < 8; k++) {
+            for (int other = 0; other < 6; other++) {
+                if (other == 4) {
+                    continue;
+                }
+                String pair = "MATTER " + k + " with " + other;
+                String[] texts = {"4 gains 1 " + other + " gains 0", other + " gains 0 4 gains 1",
+                    "4 gains 1 " + other + " loses 1", other + " loses 1 4 gains 1"};
+                for (int i = 0; i < 4; i++) {
+                    SecondWell w = Check.told(Towns.ofPair(k, 9, texts[i]));
+                    Check.due(pair + ": drawn", w.drawn(1, 1, 0), i < 2 ? 1 << k : 0);
+                    Check.due(pair + ": luck", w.luck(1, 1, 1, k), i < 2 ? 1 : 0);
+                }
             }
         }
     }
