@@ -327,11 +327,18 @@ public final class WaterEdgesTest {
         SecondWell w = Check.told("well level 9 spring 0 frost 60;person cups 1;person cups 1;person cups 1;"
                 + "matter 0 gains 1 1 gains 1;matter 1 gains 1 2 gains 1 on 0;matter 2 gains 1 0 loses 1;");
         for (int seed : new int[] {0, 1, 12345, MOST_SEED - 19}) {
-            int count = 0;
+            int settled = 0;
             for (int m = 1; m <= 20; m++) {
-                count += w.drawn(seed + m - 1, 3, 0) & 1;
-                Check.due("luck(" + seed + ", " + m + ", 3, 0)", w.luck(seed, m, 3, 0), count);
+                settled += w.drawn(seed + m - 1, 3, 0) & 1;
+                Check.due("luck(" + seed + ", " + m + ", 3, 0)", w.luck(seed, m, 3, 0), settled);
             }
+        }
+        // The first seed has its bound; those behind the last one go on from it.
+        SecondWell two = Check.told("well level 0 spring 0 frost 50;person cups 0;person cups 0;matter 0 gains 1 1 gains 1;");
+        int count = 0;
+        for (int m = 1; m <= 20; m++) {
+            count += draws((long) MOST_SEED + m - 1, 1)[0] % 100 < 50 ? 0 : 1;
+            Check.due("luck(" + MOST_SEED + ", " + m + ", 1, 0)", two.luck(MOST_SEED, m, 1, 0), count);
         }
         Check.due("luck of what never is", w.luck(0, 20, 60, 2), 0);
         Check.take(w, 0, 1);
